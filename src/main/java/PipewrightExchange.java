@@ -172,7 +172,7 @@ public final class PipewrightExchange {
             if (one.takeNeed() > 0) {
                 lacking++;
             }
-            one.forgetBids();
+            one.beginHour();
         }
         order.clear();
         flowing = false;
@@ -465,11 +465,9 @@ public final class PipewrightExchange {
             return lack;
         }
 
-        void forgetBids() {
+        /** What else is kept of this hour's bidding counts no more, as the next bid sets it anew. */
+        void beginHour() {
             standing.isThere = false;
-            told.isThere = false;
-            wasSilent = false;
-            mayGet = 0;
             got = 0;
         }
     }

@@ -26,9 +26,13 @@ final class AgainstPlainTest {
         PipewrightExchange real = new PipewrightExchange();
         PlainExchange plain = new PlainExchange();
         int districts = 1 + below(8);
+        int pipes = below(24);
         int great = below(4) == 0 ? 1000 : 2 + below(20);
         for (int c = 0; c < CALLS; c++) {
-            String call = c < districts ? "district " + below(2 * great) + " " + below(great) : next(great);
+            String call = c < districts ? "district " + below(2 * great) + " " + below(great)
+                : c < districts + pipes ? "pipe " + (below(districts + 1) - 1) + " " + below(districts) + " "
+                    + (1 + below(great - 1))
+                : c == districts + pipes ? "source " + below(6 * great) : next(great);
             String got = Script.answer(real, call);
             String due = Script.answer(plain, call);
             Script.same("run " + run + ", call " + c + ": " + call, got, due);

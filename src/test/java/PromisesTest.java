@@ -186,6 +186,8 @@ final class PromisesTest {
         silent.run("bid 1 1 1; close; close; end; bid 0 1 1; close; bid 1 1 1; close; count 3 = 2");
         Script full = new Script("Promise 10, a need beyond the tank").run("district 2 5; source 9; pipe -1 0 9");
         full.run("bid 0 3 6; close; close; end = 1; ofDistrict 0 8 = 4; ofDistrict 0 6 = 2; ofDistrict 0 7 = 3");
+        full.run("bid 0 3 5; close; close; end = 1; ofDistrict 0 8 = 7; need 0 2; bid 0 0 9; close; close; end = 0");
+        full.run("ofDistrict 0 8 = 14; ofDistrict 0 6 = 6; ofDistrict 0 7 = 6; ofDistrict 0 4 = 33");
     }
 
     /** Beyond the 512th call answers are free; the throws clause is held to all the same. */
@@ -234,6 +236,11 @@ final class PromisesTest {
         y.run("district 9 0; district 9 0; district 9 0; source 9; pipe -1 0 3; pipe -1 1 3; pipe 0 2 3; pipe 1 2 3");
         y.run("bid 2 5 3; bid 0 4 3; bid 1 3 9; close; close; flowAnew 2 = 3; flowAnew 0 = 3; flowAnew 1 = 0");
         y.run("ofDistrict 2 3 = 3; ofDistrict 0 3 = 3; ofDistrict 1 3 = 0");
+        // The second bid sends back what flows to the first one through it, over a pipe the other way as well.
+        Script z = new Script("Promise 14, ways that go back");
+        z.run("district 9 0; district 9 0; district 9 0; source 99; pipe -1 0 2; pipe 0 1 5; pipe 1 0 3; pipe -1 2 9");
+        z.run("pipe 2 1 9; bid 1 5 2; bid 0 4 9; close; close; ofDistrict 1 3 = 2; ofDistrict 0 3 = 5; flowAnew 0 = 5");
+        z.run("burst 2 = 3; ofDistrict 1 3 = 2; ofDistrict 0 3 = 2; flowAnew 0 = 2");
     }
 
     private static void promise15() {

@@ -101,11 +101,19 @@ final class Script {
             Object value = method.invoke(x, values);
             return value == null ? "nothing" : value.toString();
         } catch (InvocationTargetException e) {
-            // By the exact class, so that what the machine throws is not taken for what the document names.
-            return e.getCause().getClass().getSimpleName();
+            return nameOf(e.getCause());
         } catch (ReflectiveOperationException e) {
             throw new IllegalStateException(e);
         }
+    }
+
+    /** By where it was thrown, too: what the machine or the library throws is not what the document asks. */
+    private static String nameOf(Throwable thrown) {
+        String name = thrown.getClass().getSimpleName();
+        StackTraceElement[] frames = thrown.getStackTrace();
+        boolean byThrow = frames.length > 0 && frames[0].getClassName().matches("(Pipewright|Plain)Exchange.*")
+            && List.of(INDEX, ARGUMENT, STATE).contains(name);
+        return byThrow ? name : "the machine's " + name;
     }
 
     static void same(String what, String got, String due) {
