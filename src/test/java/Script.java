@@ -9,6 +9,19 @@ final class Script {
     static final String ARGUMENT = "IllegalArgumentException";
     static final String STATE = "IllegalStateException";
 
+    /** What may come after a refused call, to show what it left behind; short, as an object has 512 calls. */
+    private static final String[] TAILS = {
+        "close; close; burst 0; end; repair 0; bid 0 1 1; close",
+        "bid 0 99 5; bid 1 99 5; close; close; end",
+        "district 1 1; source 77; pipe -1 0 5; need 0 3; need 1 3; end; close",
+        "end; source 77; repair 0; repair 1; pipe -1 0 5; need 0 3; bid 1 0 1; bid 0 0 1; close; close",
+        "bid 0 99 1; close; bid 0 99 2; close; close; burst 1",
+        "bid 1 99 1; close; bid 1 99 2; close; close; burst 2",
+    };
+
+    /** What later calls answer is free. */
+    private static final int MOST_CALLS = 512;
+
     private static int wrong = 0;
     private static int asked = 0;
 
@@ -32,37 +45,47 @@ final class Script {
                 same(name + ": " + sides[0], got, "no exception");
             }
         }
-        return this;
-    }
-
-    /** The call throws, and two objects with and without it answer the same to all that comes. */
-    Script refuses(String call, String exception) {
-        same(name + ": " + call, answer(exchange, call), exception);
-        for (int tail = 0; tail < 3; tail++) {
-            PipewrightExchange with = replay();
-            PipewrightExchange without = replay();
-            answer(with, call);
-            same(name + ": " + call + " changes nothing", tail(with, tail), tail(without, tail));
+        if (told.size() > MOST_CALLS) {
+            same(name, "more than 512 calls", "at most 512 calls");
         }
         return this;
     }
 
-    private PipewrightExchange replay() {
+    /** So many districts with tanks of 99 and no need, a pipe of 9 from the source to each; the source gives 99. */
+    Script row(int districts) {
+        run("source 99");
+        for (int d = 0; d < districts; d++) {
+            run("district 99 0; pipe -1 " + d + " 9");
+        }
+        return this;
+    }
+
+    /** Each of the calls throws, and two objects with and without it answer the same to all that comes. */
+    Script refuses(String calls, String exception) {
+        for (String call : calls.split(";")) {
+            same(name + ": " + call.trim(), answer(exchange, call), exception);
+            for (String tail : TAILS) {
+                same(name + ": " + call.trim() + " changes nothing", tail(replay(call), tail), tail(replay(), tail));
+            }
+        }
+        return this;
+    }
+
+    /** A new object with all the calls that were told here, and some more. */
+    private PipewrightExchange replay(String... more) {
         PipewrightExchange twin = new PipewrightExchange();
         for (String call : told) {
+            answer(twin, call);
+        }
+        for (String call : more) {
             answer(twin, call);
         }
         return twin;
     }
 
-    private static String tail(PipewrightExchange x, int kind) {
+    private static String tail(PipewrightExchange x, String calls) {
         StringBuilder all = new StringBuilder(asks(x));
-        String[][] tails = {
-            {"close", "close", "burst 0", "end", "repair 0", "bid 0 1 1", "close"},
-            {"bid 0 99 5", "bid 1 99 5", "close", "close", "end"},
-            {"district 1 1", "source 77", "pipe -1 0 5", "need 0 3", "end", "close"},
-        };
-        for (String call : tails[kind]) {
+        for (String call : calls.split(";")) {
             all.append(call).append(' ').append(answer(x, call)).append('\n');
         }
         return all.append(asks(x)).toString();
