@@ -519,7 +519,7 @@ public final class PipewrightExchange {
             }
             for (int p = 0; p < pipes.size(); p++) {
                 Pipe pipe = pipes.get(p);
-                if (!pipe.hasBurst) {
+                if (!pipe.hasBurst && isNode(pipe.fromNode) && isNode(pipe.toNode)) {
                     room[pipe.fromNode][pipe.toNode] += pipe.limit;
                 }
             }
@@ -554,7 +554,7 @@ public final class PipewrightExchange {
             int known = 1;
             for (int f = 0; f < known && f < NODES; f++) {
                 int here = found[f];
-                for (int next = 0; next < NODES; next++) {
+                for (int next = 0; next < NODES && isNode(here); next++) {
                     if (reach[next] == 0 && room[here][next] > 0 && known < NODES) {
                         reach[next] = Math.min(reach[here], room[here][next]);
                         ahead[next] = here;
@@ -563,17 +563,24 @@ public final class PipewrightExchange {
                     }
                 }
             }
-            return reach[node];
+            return isNode(node) ? reach[node] : 0;
         }
 
         private void flowOnWay(int node, int units) {
             int to = node;
-            for (int step = 0; step < NODES && to != SOURCE; step++) {
+            for (int step = 0; step < NODES && isNode(to) && to != SOURCE; step++) {
                 int from = ahead[to];
-                room[from][to] -= units;
-                room[to][from] += units;
+                if (isNode(from)) {
+                    room[from][to] -= units;
+                    room[to][from] += units;
+                }
                 to = from;
             }
+        }
+
+        /** Every number that is kept for a node is one; it is looked at all the same before it is an index. */
+        private static boolean isNode(int number) {
+            return number >= 0 && number < NODES;
         }
     }
 }

@@ -279,6 +279,17 @@ final class PromisesEdgesTest {
         z.run("close; close; flowAnew 7 = 4; flowAnew 6 = 4; flowAnew 5 = 4; flowAnew 4 = 4; flowAnew 3 = 4; count 4 = 20");
         z.run("flowAnew 2 = 0; flowAnew 1 = 0; flowAnew 0 = 0; burst 7 = 4; flowAnew 7 = 0; flowAnew 6 = 4; flowAnew 2 = 0");
         z.run("burst 2 = 4; flowAnew 3 = 0; flowAnew 2 = 0; flowAnew 1 = 0; count 4 = 12");
+        flowAnewWithBursts();
+    }
+
+    private static void flowAnewWithBursts() {
+        Script x = row("Promise 14, in an hour with bursts, but none while all was FLOWING", 2).run("bid 0 5 9; bid 1 4 8");
+        x.run("burst 0 = 0; close; pipe -1 0 4; close; flowAnew 0 = 4; flowAnew 1 = 8; end; bid 0 5 3; close; burst 2 = 0");
+        x.run("close; flowAnew 0 = 0; flowAnew 1 = 0; end; repair 0; bid 0 5 3; close; close; flowAnew 0 = 3");
+        Script y = row("Promise 14, by what was got ahead of the latest one of these", 2).run("source 12; pipe 1 0 9");
+        y.run("bid 0 5 9; bid 1 4 9; close; close; flowAnew 0 = 9; flowAnew 1 = 3; burst 0 = 3; flowAnew 0 = 9");
+        y.run("flowAnew 1 = 0; burst 2 = 9; flowAnew 0 = 0; flowAnew 1 = 0; most 2 = 9; end; repair 0; bid 1 4 9; close");
+        y.run("close; flowAnew 1 = 9; flowAnew 0 = 0");
     }
 
     private static void most() {

@@ -26,6 +26,7 @@ final class PromisesTest {
         promise15();
         promise16();
         promise17();
+        readme();
         Script.finish("PromisesTest");
     }
 
@@ -277,5 +278,11 @@ final class PromisesTest {
         x.run("burst 0 = 8; count 4 = 1; count 6 = 1; count 2 = 2; end = 2");
         x.run("count 7 = 1; count 5 = 0; count 4 = 0; count 3 = 0; repair 0; bid 0 1 8; close; close; end; count 5 = 5");
         x.run("count 7 = 9; count 6 = 9; count 2 = 1");
+    }
+
+    /** The calls that README.md shows under "Use". */
+    private static void readme() {
+        Script x = new Script("README.md").run("district 50 4 = 0; district 20 6 = 1; source 20; pipe -1 0 10; pipe 0 1 6");
+        x.run("bid 0 5 6 = 1; bid 1 7 5 = 2; close = false; close = true; ofDistrict 1 3 = 5; burst 1 = 5; end = 1");
     }
 }
